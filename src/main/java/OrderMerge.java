@@ -184,6 +184,7 @@ public final class OrderMerge {
     private void settleAgain() {
         orders.settleAll(current.facts);
         mender.known = false;
+        lots.known = NONE;
     }
 
     // ---- deeds
@@ -699,7 +700,7 @@ public final class OrderMerge {
         if (code != 0) {
             return code;
         }
-        lots.drawAll(current.facts, n);
+        lots.learn(current.facts, n);
         return inLowestTerms(lots.allOrdered, lots.draws, what);
     }
 
@@ -708,7 +709,7 @@ public final class OrderMerge {
         if (code != 0) {
             return code;
         }
-        lots.drawAll(current.facts, n);
+        lots.learn(current.facts, n);
         return inLowestTerms(lots.ordered, lots.draws, what);
     }
 
@@ -1412,12 +1413,15 @@ public final class OrderMerge {
         }
 
         int rowsThatMeetAll() {
-            for (int set = endings.length - 1; set >= 0; set--) {
-                if ((set & ~members) != 0) {
-                    endings[set] = 0;
-                } else {
-                    endings[set] = set == members ? 1 : endingsBehind(set, MOST_CLASSES);
-                }
+            if (members < 0 || members >= endings.length) {
+                return 0;
+            }
+            int set = members;
+            endings[set] = 1;
+            while (set > 0) {
+                // The next lesser set of members alone.
+                set = set - 1 & members;
+                endings[set] = endingsBehind(set, MOST_CLASSES);
             }
             return endings[0];
         }
@@ -2229,8 +2233,14 @@ public final class OrderMerge {
         private int draws;
         private int allOrdered;
         private int ordered;
+        /** For how many lots the numbers above hold. */
+        private int known = NONE;
 
-        void drawAll(Facts facts, int n) {
+        void learn(Facts facts, int n) {
+            if (known == n) {
+                return;
+            }
+            known = n;
             tally(n);
             allOrdered = 0;
             ordered = 0;

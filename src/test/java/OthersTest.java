@@ -124,6 +124,14 @@ public final class OthersTest {
         OrderMerge four = Check.told("house mood 0;class;class 0;class;class 0 1;class;class 4;class 4 5;class 2;class 2 7;");
         repairIs(four, 10, 54, 72);
         due("12: one more", four.count(5), 1 << 3 | 1 << 6 | 1 << 8);
+        // Four that have no link in common: not by three.
+        OrderMerge many = Check.told("house mood 0;class;class 0;class 0;class 0;class 0;class 0 1;class 0 2;class 0 3;"
+            + "class 0 4;");
+        due("38: not by so few", many.repairs(), -1);
+        due("39: not by so few", many.repair(0), -1);
+        due("39: i", many.repair(-1), -3);
+        many.take(8, 0);
+        repairIs(many, 10, 20, 30);
         OrderMerge two = Check.told("house mood 0;class;class;class;class;class 0 1;class 1 0;class 2 3;class 3 2;"
             + "class 4 5 6 7;class 7 6 5 4;");
         due("38: refused twice", two.count(5), 1 << 8 | 1 << 9);
