@@ -44,6 +44,14 @@ public final class HouseTest {
         due("4: the end", x.fault(1), 900);
         due("3: the tape is empty", x.count(7), 0);
         due("2: feed again", x.feed(0, 0, 0, 0, 0), 20);
+        // As many tokens as there can be.
+        OrderMerge z = new OrderMerge();
+        due("3: 900 tokens", Check.tell(z, ";".repeat(900)), -32);
+        due("4: 900 tokens", z.fault(1), 0);
+        String most = "house mood 0;says:1" + "+1".repeat(439) + ";";
+        due("3: 899 bytes", Check.tell(z, most + "?"), -31);
+        due("4: 899 bytes", z.fault(1), most.length());
+        due("3: a long law", Check.tell(z, most), 2);
         // "house mood 7;" by its numbers: the highest byte of each int comes first.
         OrderMerge y = new OrderMerge();
         y.feed(0x686f7573, 0x65206d6f, 0x6f642037, 0x3b202020, 0x20202020);

@@ -94,6 +94,9 @@ public final class ToldTest {
             Check.fill(x, 0, 3, told(0, 0, 0), v);
             due("40: " + v, x.moods(0), -3);
             due("41: " + v, x.attempt(0), -3);
+            Check.fill(x, 0, 3, v, told(0, 0, 0));
+            due("40: first " + v, x.moods(0), -3);
+            due("41: first " + v, x.attempt(0), -3);
         }
         Check.fill(x, 0, 3, told(0, 7, 49999), told(1, 7, -50000));
         due("40: the edges", x.moods(0), 0);
