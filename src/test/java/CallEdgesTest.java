@@ -20,6 +20,7 @@ public final class CallEdgesTest {
         namesInTheLaws();
         depthInTheOrderOfTheCaller();
         sumsAndTruths();
+        sixDeep();
         whereItIsSeen();
         seenByTheMood();
         serves();
@@ -236,6 +237,25 @@ public final class CallEdgesTest {
         }
     }
 
+    /** Six within one another, each with as much to wait for as can be. */
+    private static void sixDeep() {
+        for (String innermost : new String[] {"1", "0"}) {
+            String truth = "1=2 or 1=1 and 1=0+1*" + innermost;
+            for (int i = 0; i < 6; i++) {
+                String sum = "if " + truth + " then 1 else 0 end";
+                due("29: " + (i + 1) + " deep", says(sum), innermost.equals("1") ? 1 : 0);
+                truth = "1=2 or 1=1 and 1=0+1*" + sum;
+            }
+            String text = "house mood 0;class;method 0 in 0 ends;seen:" + truth + ";";
+            due("29: six deep in seen", Check.told(text).call(0, 0), innermost.equals("1") ? 0 : TO_NONE);
+        }
+        String sum = "3";
+        for (int i = 0; i < 3; i++) {
+            sum = "if 1=2 then 9 else 1+2*(" + sum + ")-1 end";
+        }
+        due("29: in else and ( )", says(sum), 3 * 8);
+    }
+
     /** "And where it is SEEN": what isn't is passed over, be it an end or not. */
     private static void whereItIsSeen() {
         String text = "house mood 0;class;class 0;class 1;method 0 in 0 ends;method 0 in 1 ends;method 0 in 2 ends;"
@@ -271,6 +291,9 @@ public final class CallEdgesTest {
         due("31: mood 5", x.serves(1, 0), 2);
         due("32: mood 5", x.dead(), 0);
         due("33: mood 5", x.firstDead(), -1);
+        due("17: undone", x.undo(1), 0);
+        due("32: mood 4 again", x.dead(), 1);
+        due("33: mood 4 again", x.firstDead(), 10);
     }
 
     /** "CLASSES for which a CALL of a METHOD goes first to a CLASS, as bits." */

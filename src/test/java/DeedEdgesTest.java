@@ -11,6 +11,9 @@ public final class DeedEdgesTest {
     /** Eight classes: 7 has four parents, 6 three, 5 one. */
     private static final String HOUSE = "house mood 3;class;class;class;class;class;class 0;class 0 1 2;class 4 3 1 0;"
         + "method 0 in 0 ends;method 1 in 6 next;method 7 in 7 next;says:in+mood;";
+    /** Ten classes, so that every class of a deed is one; 9 has four parents. */
+    private static final String TEN = "house mood 3;class;class;class;class;class;class 0;class 0 1 2;class 4 3 1 0;class;"
+        + "class 8 7 3 2;method 0 in 0 ends;method 1 in 6 next;method 7 in 9 next;says:in+mood;";
     private static final Check CHECK = new Check();
 
     public static void main(String[] args) {
@@ -399,24 +402,26 @@ public final class DeedEdgesTest {
 
     /** "DEEDS: .. others: 1": all numbers about, and some far off. */
     private static void everyDeed() {
-        for (long v = -20; v <= 1500; v++) {
-            judgesAs(v);
+        for (String text : new String[] {HOUSE, TEN}) {
+            for (long v = -20; v <= 1500; v++) {
+                judgesAs(text, v);
+            }
         }
         long[] far = {1999, 2000, 10010, 32767, 65546, 1L << 31, 1L << 32 | 10, 1L << 32 | 150, -(1L << 32) + 10,
             Long.MAX_VALUE, Long.MIN_VALUE, Long.MIN_VALUE + 10};
         for (long v : far) {
-            judgesAs(v);
+            judgesAs(TEN, v);
         }
-        OrderMerge x = Check.told(HOUSE);
+        OrderMerge x = Check.told(TEN);
         for (long v : new long[] {9, 20, 99, 400, 999, 1300}) {
             Check.fill(x, 0, 3, v);
             due("18: others: 1: " + v, x.judge(0, 1), 1);
         }
     }
 
-    private static void judgesAs(long v) {
-        OrderMerge x = Check.told(HOUSE);
-        OrderMerge y = Check.told(HOUSE);
+    private static void judgesAs(String text, long v) {
+        OrderMerge x = Check.told(text);
+        OrderMerge y = Check.told(text);
         int why = byCall(y, v);
         Check.fill(x, 0, 3, v);
         due("18: deed " + v, x.judge(0, 0), why == 0 ? -1 : 0);
@@ -427,8 +432,8 @@ public final class DeedEdgesTest {
 
     private static void everyDeedDone() {
         for (int v = 0; v < 1310; v++) {
-            OrderMerge x = Check.told(HOUSE);
-            OrderMerge y = Check.told(HOUSE);
+            OrderMerge x = Check.told(TEN);
+            OrderMerge y = Check.told(TEN);
             int why = byCall(y, v);
             Check.fill(x, 3, 1, v);
             due("19: deed " + v, x.perform(3), why == 0 ? 1 : 0);

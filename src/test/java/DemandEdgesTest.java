@@ -16,6 +16,7 @@ public final class DemandEdgesTest {
         demandsOfRefusedAndLostOnes();
         ringsOfTheFewest();
         ringsByClasses();
+        askedFirst();
         noRing();
         waysAndRanks();
         ranksFromFirstToLast();
@@ -148,6 +149,23 @@ public final class DemandEdgesTest {
         ringIs(u, 8, 0, 2, 1);
     }
 
+    /** Each call finds out by itself what binds a class. */
+    private static void askedFirst() {
+        String text = "house mood 0;class;class 0;class 0 1;class;";
+        due("21: asked first", Check.told(text).demands(2), 4);
+        due("22: asked first", Check.told(text).demand(2, 3), 21);
+        due("23: asked first", Check.told(text).ring(2, 1), 1);
+        due("24: asked first", Check.told(text).ways(1), 1);
+        due("27: asked first", Check.told(text).breaks(2, 1), 1);
+        OrderMerge x = Check.told(text);
+        due("21: of another one", x.demands(3), 0);
+        due("22: behind another one", x.demand(2, 0), 1);
+        due("21: of another one", x.demands(3), 0);
+        due("23: behind another one", x.ring(2, 0), 0);
+        due("21: of another one", x.demands(3), 0);
+        due("27: behind another one", x.breaks(2, 1), 1);
+    }
+
     private static void noRing() {
         OrderMerge x = Check.told("house mood 0;class;class 0;class 0;class 1 2;class 3 0;");
         for (int c = 0; c < 5; c++) {
@@ -187,8 +205,12 @@ public final class DemandEdgesTest {
         // Behind 8 and 6: 5 4 woven with 2 1 0; 5 4 2 1 0 is its order.
         OrderMerge last = Check.told("house mood 0;class;class;class 1 0;class;class;class;class 5 4;class;class 6 2;");
         due("8: its order", last.order(8, 2), 5);
+        due("25: the last of ten, asked first", last.rank(8), 9);
         due("24: 2 1 0 among 5 4", last.ways(8), 10);
+        due("24: another one", last.ways(6), 1);
         due("25: the last of ten", last.rank(8), 9);
+        due("22: asked behind another one", last.demand(8, 0), 10);
+        due("23: asked behind another one", last.ring(8, 0), -1);
     }
 
     private static void oldIs(OrderMerge x, int c, int kind, int... row) {

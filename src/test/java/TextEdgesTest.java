@@ -332,6 +332,11 @@ public final class TextEdgesTest {
         due("29: the last law of saying, of seeing", x.call(0, 2), 3);
         x = Check.told(text + "seen:1=1;seen:1=2;");
         due("29: the last law of seeing", x.call(0, 2), -99000001);
+        // As many laws as there can be.
+        x = Check.told("house mood 0;class;method 0 in 0 ends;" + "says:1;".repeat(122) + "says:2;");
+        due("29: the last of many laws of saying", x.call(0, 0), 2);
+        x = Check.told("house mood 0;class;method 0 in 0 ends;" + "seen:1=1;".repeat(94) + "seen:1=2;");
+        due("29: the last of many laws of seeing", x.call(0, 0), -99000001);
         // A law told ahead of the classes holds, too.
         x = Check.told("house mood 0;says:5;class;method 2 in 0 ends;");
         due("29: a law told first", x.call(0, 2), 5);

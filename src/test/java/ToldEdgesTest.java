@@ -14,6 +14,7 @@ public final class ToldEdgesTest {
         eachMood();
         whatCanBeTold();
         readByItsDigits();
+        whatWouldBeIsNotTold();
         callsToNone();
         theMoodStays();
         toldCodes();
@@ -21,6 +22,7 @@ public final class ToldEdgesTest {
         theFirstOfLikeOnes();
         toNoneIsOneAnswer();
         ofTheseMoodsAlone();
+        moodZeroCounts();
         noneAreLeft();
         noLots();
         lotsThatDoNothing();
@@ -113,6 +115,38 @@ public final class ToldEdgesTest {
         due("40: class 10", moods(x, 100000000L), -3);
         due("40: the last of class 9", moods(x, 90799999L), 0);
         due("40: the first of class 0", moods(x, 0L), 0);
+        // The first number of each class is of that class, the one ahead of it of none.
+        OrderMerge y = Check.told("house mood 0;class;class;class;class;class;class;class;class;class;class;method 0 in 9 ends;"
+            + "method 0 in 5 ends;method 0 in 1 ends;says:0-500*100+in-1;");
+        for (int c = 0; c < 10; c++) {
+            boolean defines = c == 1 || c == 5 || c == 9;
+            for (int more = 0; more < 10; more++) {
+                due("40: the first numbers of class " + c, moods(y, 10000000L * c + more), defines && more == c - 1 ? 1023 : 0);
+            }
+            due("40: the last number ahead of class " + c, moods(y, 10000000L * c - 1), -3);
+        }
+    }
+
+    /** The new class that would be is none, though the house has ten. */
+    private static void whatWouldBeIsNotTold() {
+        OrderMerge x = Check.told("house mood 0;class;class;class;class;class;class;class;class;class;class;");
+        Check.fill(x, 0, 0, 3);
+        due("35: it would have an order", x.would(0), 0);
+        due("40: class 10", moods(x, told(10, 0, 0)), -3);
+        due("41: class 10", x.attempt(1), -3);
+        due("7: class 10", x.state(10), -2);
+        due("8: class 10", x.order(10, 1), -2);
+        due("9: class 10", x.place(10, 3), -2);
+        due("9: class 10", x.place(3, 10), -2);
+        due("29: class 10", x.call(10, 0), -99000002);
+        due("34: class 10", x.common(10, 3), -2);
+        due("46: class 10", x.lists(0, 10), -2);
+        due("35: class 10 is no parent", writeParent(x, 10), -3);
+    }
+
+    private static int writeParent(OrderMerge x, int parent) {
+        x.write(0, 0, parent);
+        return x.would(0);
     }
 
     private static void callsToNone() {
@@ -203,6 +237,19 @@ public final class ToldEdgesTest {
         due("41: method 1 tells them not apart, method 2 does", attempt(x, told(0, 0, 0)), 2);
         due("40: seven moods", moods(x, told(0, 0, 1)), 1023 - 7);
         due("41: method 1 tells them apart", attempt(x, told(0, 0, 1)), 1);
+    }
+
+    /** Mood 0 counts like the others: method 1 tells 2 apart from 0 and 1, method 2 all three. */
+    private static void moodZeroCounts() {
+        OrderMerge x = Check.told(PARTS + "method 1 in 0 ends;method 2 in 0 ends;says:if method=0 then if mood<3 then 0 else 1 end "
+            + "else if method=1 then if mood<2 then 1 else 2 end else mood end end;");
+        due("40: moods 0, 1 and 2", moods(x, told(0, 0, 0)), 7);
+        due("41: all three apart", attempt(x, told(0, 0, 0)), 2);
+        due("40: moods 0 and 1", moods(x, told(0, 1, 1)), 3);
+        due("41: both apart", attempt(x, told(0, 1, 1)), 2);
+        x.define(0, 2, 2);
+        due("41: at most two alike", attempt(x, told(0, 0, 0)), 1);
+        due("41: both alike", attempt(x, told(0, 1, 1)), 0);
     }
 
     /** "NONE: there are none." */
