@@ -1416,12 +1416,11 @@ public final class OrderMerge {
             if (members < 0 || members >= endings.length) {
                 return 0;
             }
-            int set = members;
-            endings[set] = 1;
-            while (set > 0) {
-                // The next lesser set of members alone.
-                set = set - 1 & members;
-                endings[set] = endingsBehind(set, MOST_CLASSES);
+            endings[members] = 1;
+            for (int set = members - 1; set >= 0; set--) {
+                if ((set & ~members) == 0) {
+                    endings[set] = endingsBehind(set, MOST_CLASSES);
+                }
             }
             return endings[0];
         }
